@@ -9,6 +9,7 @@ public final class ForetoldTest {
         changesNothing(due);
         knowsCartsAndLoans(due);
         goesByTheNextEdict(due);
+        knowsTheCoin(due);
         bestOfAllRoads(due);
         lowestOfLikeOnes(due);
         bestBothWays(due);
@@ -132,6 +133,15 @@ public final class ForetoldTest {
         due.is("it sells", 0, x.foretold(5));
         Due.edict(x, "p0;o0;m4");
         due.is("it sells few", 30 - 12, x.foretold(3));
+    }
+
+    private static void knowsTheCoin(Due due) {
+        EvenGranary x = new EvenGranary();
+        x.town(10, 90, 1000);
+        due.is("without coin nothing is bought", 0, x.foretold(1));
+        x.coin(8500);
+        due.is("85 of 90 are bought", 5, x.foretold(1));
+        due.is("the coin stays", 8500, x.count(3));
     }
 
     private static void bestOfAllRoads(Due due) {

@@ -9,10 +9,12 @@ public final class MonthTest {
         paysBackInTheNinthMonth(due);
         paysBackWhatTheMarketHas(due);
         paysBackWhatTheRoomHas(due);
+        cartsTakeTheRoomFirst(due);
         buysAsManyAs(due);
         buysAtThePriceOrBelow(due);
         oneCoinForAllTowns(due);
         sells(due);
+        sellingNothingLooksAtNoLot(due);
         buyingComesBeforeSelling(due);
         harvestTradeThenEating(due);
         spoils(due);
@@ -118,6 +120,23 @@ public final class MonthTest {
         due.is("nothing was bought over it", 150, x.look(0, 10));
     }
 
+    private static void cartsTakeTheRoomFirst(Due due) {
+        EvenGranary x = with("n60;p0;o0");
+        x.town(1, 5000, 60);
+        x.town(1, 5000, 60);
+        x.road(1, 0, 1, 100);
+        x.step(1);
+        x.loan(0, 40);
+        Due.edict(x, "n0;p0;o0");
+        x.step(7);
+        due.is("true", 20, x.look(0, 5));
+        x.move(1, 0, 25);
+        x.step(1);
+        due.is("15 of 44 are paid back", 29, x.look(0, 9));
+        due.is("true", 60, x.look(0, 5));
+        lot(due, x, 1, 9, 40, 0);
+    }
+
     private static void buysAsManyAs(Due due) {
         EvenGranary x = with("n30");
         x.town(1, 5000, 1000);
@@ -209,6 +228,21 @@ public final class MonthTest {
         due.is("no lots", 0, x.look(0, 4));
         due.is("no hunger", 0, x.look(0, 7));
         due.is("book", 0, x.look(0, 6));
+    }
+
+    private static void sellingNothingLooksAtNoLot(Due due) {
+        EvenGranary x = with("b1000;n20;p0;o0");
+        x.town(10, 30, 100);
+        x.coin(100000);
+        x.step(1);
+        x.steal(0, 20);
+        Due.edict(x, "b0;p0;o1");
+        x.step(11);
+        due.is("nothing was there to sell", 0, x.look(0, 11));
+        due.is("month", 12, x.count(0));
+        due.is("the lot with nothing stays", 1, x.look(0, 4));
+        due.is("book", 20, x.look(0, 6));
+        due.is("nothing is found", 0, x.missing(0, 0));
     }
 
     private static void buyingComesBeforeSelling(Due due) {

@@ -114,19 +114,15 @@ public final class RandomRunsTest {
                 int of = some(4);
                 due.is(run + "lot(" + t + ", " + i + ", " + of + ")", y.lot(t, i, of), x.lot(t, i, of));
                 break;
-            case 38: due.is(run + "missing(" + t + ")", y.missing(t, some3()), x.missing(t, last)); break;
+            case 38:
+                int end = some(3);
+                due.is(run + "missing(" + t + ", " + end + ")", y.missing(t, end), x.missing(t, end));
+                break;
             default:
                 int letter = random.nextInt(5) == 0 ? some(256) : "bnsmlapo".charAt(random.nextInt(8));
                 due.is(run + "rule(" + letter + ")", y.rule(letter), x.rule(letter));
                 break;
         }
-    }
-
-    private int last;
-
-    private int some3() {
-        last = some(3);
-        return last;
     }
 
     private void town() {
