@@ -60,30 +60,13 @@ public final class ForetoldTest {
         x.loan(0, 4);
         x.move(0, 0, 5);
         x.harvest(1, 77);
-        String before = state(x);
+        String before = Realms.state(x);
         x.foretold(24);
         x.best(0, 24);
         x.best(1, 24);
-        due.is("nothing is changed", true, before.equals(state(x)));
+        due.is("nothing is changed", true, before.equals(Realms.state(x)));
         long first = x.foretold(24);
         due.is("the same again", first, x.foretold(24));
-    }
-
-    private static String state(EvenGranary x) {
-        StringBuilder all = new StringBuilder();
-        for (int what = 0; what < 23; what++) {
-            all.append(x.count(what)).append(' ');
-        }
-        for (int t = 0; t < 8; t++) {
-            for (int what = 0; what < 13; what++) {
-                all.append(x.look(t, what)).append(' ');
-            }
-            for (int i = 0; i < 40; i++) {
-                all.append(x.lot(t, i, 0)).append(' ').append(x.lot(t, i, 1)).append(' ').append(x.lot(t, i, 2)).append(' ');
-            }
-            all.append(x.missing(t, 0)).append(' ').append(x.missing(t, 1)).append(' ');
-        }
-        return all.toString();
     }
 
     /** Town 0 with 100 measures in its store and a full market; 1 and 2 have nothing and eat 10 and 20. */

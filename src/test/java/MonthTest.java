@@ -26,19 +26,6 @@ public final class MonthTest {
         due.end();
     }
 
-    private static EvenGranary with(String edict) {
-        EvenGranary x = new EvenGranary();
-        Due.edict(x, edict);
-        return x;
-    }
-
-    /** What is due of a lot: its month, its book and whether it was measured. */
-    private static void lot(Due due, EvenGranary x, int i, int month, int book, int measured) {
-        due.is("month of lot " + i, month, x.lot(0, i, 0));
-        due.is("book of lot " + i, book, x.lot(0, i, 1));
-        due.is("lot " + i + " measured", measured, x.lot(0, i, 2));
-    }
-
     private static void wrongSteps(Due due) {
         EvenGranary x = new EvenGranary();
         for (int n : new int[] {0, -1, 25, Integer.MIN_VALUE, Integer.MAX_VALUE}) {
@@ -75,12 +62,12 @@ public final class MonthTest {
         due.is("it is in month 9", 0, x.look(0, 9));
         due.is("true", 905, x.look(0, 5));
         due.is("what was bought", 900, x.look(0, 10));
-        lot(due, x, 8, 9, 155, 0);
+        due.lot(x, 0, 8, 9, 155, 0);
         due.is("market", 5000 - 900 + 50 - 55 - 9, x.look(0, 1));
     }
 
     private static void paysBackWhatTheMarketHas(Due due) {
-        EvenGranary x = with("b9999;n60;s9999;p0;o0");
+        EvenGranary x = Realms.with("b9999;n60;s9999;p0;o0");
         x.coin(1000000);
         x.town(100, 560, 100);
         x.step(1);
@@ -101,8 +88,8 @@ public final class MonthTest {
         due.is("the rest in month 21", 0, x.look(0, 9));
         due.is("market", 0, x.look(0, 1));
         due.is("hunger", 340 + 1100 + 41, x.look(0, 7));
-        lot(due, x, 0, 9, 25, 0);
-        lot(due, x, 1, 21, 41, 0);
+        due.lot(x, 0, 0, 9, 25, 0);
+        due.lot(x, 0, 1, 21, 41, 0);
     }
 
     private static void paysBackWhatTheRoomHas(Due due) {
@@ -121,7 +108,7 @@ public final class MonthTest {
     }
 
     private static void cartsTakeTheRoomFirst(Due due) {
-        EvenGranary x = with("n60;p0;o0");
+        EvenGranary x = Realms.with("n60;p0;o0");
         x.town(1, 5000, 60);
         x.town(1, 5000, 60);
         x.road(1, 0, 1, 100);
@@ -134,11 +121,11 @@ public final class MonthTest {
         x.step(1);
         due.is("15 of 44 are paid back", 29, x.look(0, 9));
         due.is("true", 60, x.look(0, 5));
-        lot(due, x, 1, 9, 40, 0);
+        due.lot(x, 0, 1, 9, 40, 0);
     }
 
     private static void buysAsManyAs(Due due) {
-        EvenGranary x = with("n30");
+        EvenGranary x = Realms.with("n30");
         x.town(1, 5000, 1000);
         x.town(1, 5000, 20);
         x.step(1);
@@ -183,7 +170,7 @@ public final class MonthTest {
         due.is("price", 101, x.look(0, 3));
         x.step(1);
         due.is("too dear", 0, x.look(0, 10));
-        x = with("b101");
+        x = Realms.with("b101");
         x.town(10, 89, 1000);
         x.coin(100000);
         x.step(1);
@@ -202,7 +189,7 @@ public final class MonthTest {
     }
 
     private static void sells(Due due) {
-        EvenGranary x = with("b1000;n50;p0;o0");
+        EvenGranary x = Realms.with("b1000;n50;p0;o0");
         x.town(10, 60, 100);
         x.town(1, 9, 100);
         x.coin(7100);
@@ -231,7 +218,7 @@ public final class MonthTest {
     }
 
     private static void sellingNothingLooksAtNoLot(Due due) {
-        EvenGranary x = with("b1000;n20;p0;o0");
+        EvenGranary x = Realms.with("b1000;n20;p0;o0");
         x.town(10, 30, 100);
         x.coin(100000);
         x.step(1);
@@ -246,7 +233,7 @@ public final class MonthTest {
     }
 
     private static void buyingComesBeforeSelling(Due due) {
-        EvenGranary x = with("b1000;n7;s0;m5;p0;o0");
+        EvenGranary x = Realms.with("b1000;n7;s0;m5;p0;o0");
         x.town(10, 30, 100);
         x.coin(100000);
         x.step(1);
@@ -281,24 +268,24 @@ public final class MonthTest {
     }
 
     private static void spoils(Due due) {
-        EvenGranary x = with("a2;p50;o0;n7");
+        EvenGranary x = Realms.with("a2;p50;o0;n7");
         x.town(1, 5000, 1000);
         x.step(2);
         due.is("too young", 0, x.look(0, 8));
         x.step(1);
         due.is("month 3", 4, x.look(0, 8));
-        lot(due, x, 0, 1, 3, 0);
-        lot(due, x, 1, 2, 7, 0);
+        due.lot(x, 0, 0, 1, 3, 0);
+        due.lot(x, 0, 1, 2, 7, 0);
         x.step(1);
         due.is("month 4", 10, x.look(0, 8));
         x.measure(0, 1);
         x.step(1);
         due.is("month 5", 17, x.look(0, 8));
         due.is("lots", 4, x.look(0, 4));
-        lot(due, x, 0, 2, 1, 1);
-        lot(due, x, 1, 3, 3, 0);
-        lot(due, x, 2, 4, 7, 0);
-        lot(due, x, 3, 5, 7, 0);
+        due.lot(x, 0, 0, 2, 1, 1);
+        due.lot(x, 0, 1, 3, 3, 0);
+        due.lot(x, 0, 2, 4, 7, 0);
+        due.lot(x, 0, 3, 5, 7, 0);
         due.is("true", 18, x.look(0, 5));
         due.is("nothing is missing", 0, x.missing(0, 0));
         Due.edict(x, "a1;p0;o0;n7");
@@ -308,11 +295,11 @@ public final class MonthTest {
         x.step(1);
         due.is("all but the new one by p100", 17 + 25, x.look(0, 8));
         due.is("lots", 1, x.look(0, 4));
-        lot(due, x, 0, 7, 7, 0);
+        due.lot(x, 0, 0, 7, 7, 0);
     }
 
     private static void spoilsWhatIsTrue(Due due) {
-        EvenGranary x = with("a2;p50;o0;n7");
+        EvenGranary x = Realms.with("a2;p50;o0;n7");
         x.town(1, 5000, 7);
         x.step(1);
         Due.edict(x, "a2;p50;o0;n0");
@@ -327,7 +314,7 @@ public final class MonthTest {
         due.is("gone", 0, x.look(0, 4));
         due.is("found", 4, x.missing(0, 0));
 
-        x = with("a3;p0;o0;n7");
+        x = Realms.with("a3;p0;o0;n7");
         x.town(1, 5000, 7);
         x.step(1);
         x.steal(0, 7);
@@ -341,58 +328,58 @@ public final class MonthTest {
     }
 
     private static void turnsOver(Due due) {
-        EvenGranary x = with("n10;o7;p0");
+        EvenGranary x = Realms.with("n10;o7;p0");
         x.town(1, 5000, 1000);
         x.step(11);
         due.is("lots", 11, x.look(0, 4));
         x.step(1);
         due.is("lots", 11, x.look(0, 4));
-        lot(due, x, 0, 2, 2, 0);
-        lot(due, x, 1, 3, 10, 0);
-        lot(due, x, 10, 12, 28, 0);
+        due.lot(x, 0, 0, 2, 2, 0);
+        due.lot(x, 0, 1, 3, 10, 0);
+        due.lot(x, 0, 10, 12, 28, 0);
         due.is("true", 120, x.look(0, 5));
         due.is("market", 5000 - 120 - 12, x.look(0, 1));
 
-        x = with("n10;o0;p0");
+        x = Realms.with("n10;o0;p0");
         x.town(1, 5000, 1000);
         x.step(12);
         due.is("nothing by o0", 12, x.look(0, 4));
-        lot(due, x, 0, 1, 10, 0);
+        due.lot(x, 0, 0, 1, 10, 0);
 
-        x = with("n10;o1;p0");
+        x = Realms.with("n10;o1;p0");
         x.town(1, 5000, 1000);
         x.step(11);
         x.steal(0, 25);
         x.step(1);
         due.is("all by o1", 1, x.look(0, 4));
-        lot(due, x, 0, 12, 95, 0);
+        due.lot(x, 0, 0, 12, 95, 0);
         due.is("found by it", 25, x.missing(0, 0));
         due.is("book", 95, x.look(0, 6));
         x.measure(0, 0);
         Due.edict(x, "n0;o1;p0");
         x.step(12);
-        lot(due, x, 0, 24, 95, 0);
+        due.lot(x, 0, 0, 24, 95, 0);
     }
 
     private static void turnsOverWhatTheMarketHas(Due due) {
-        EvenGranary x = with("b9999;n60;s9999;o1;p0");
+        EvenGranary x = Realms.with("b9999;n60;s9999;o1;p0");
         x.town(100, 1260, 60);
         x.coin(1000000);
         x.step(11);
         due.is("market", 100, x.look(0, 1));
         x.harvest(0, 25);
         x.step(1);
-        lot(due, x, 0, 1, 35, 0);
-        lot(due, x, 1, 12, 25, 0);
+        due.lot(x, 0, 0, 1, 35, 0);
+        due.lot(x, 0, 1, 12, 25, 0);
         due.is("market", 25, x.look(0, 1));
         due.is("true", 60, x.look(0, 5));
         x.step(12);
         due.is("nothing with no market", 2, x.look(0, 4));
-        lot(due, x, 0, 1, 35, 0);
+        due.lot(x, 0, 0, 1, 35, 0);
     }
 
     private static void fortyLots(Due due) {
-        EvenGranary x = with("n1;p0;o0");
+        EvenGranary x = Realms.with("n1;p0;o0");
         x.town(1, 5000, 1000);
         x.step(24);
         x.step(16);
@@ -401,22 +388,22 @@ public final class MonthTest {
         x.measure(0, 38);
         x.step(5);
         due.is("no more of them", 40, x.look(0, 4));
-        lot(due, x, 0, 1, 1, 0);
-        lot(due, x, 38, 39, 1, 1);
-        lot(due, x, 39, 40, 6, 0);
+        due.lot(x, 0, 0, 1, 1, 0);
+        due.lot(x, 0, 38, 39, 1, 1);
+        due.lot(x, 0, 39, 40, 6, 0);
         due.is("lot 40", NONE, x.lot(0, 40, 0));
         x.loan(0, 2);
         due.is("room for two lots", 38, x.look(0, 4));
         x.step(1);
-        lot(due, x, 37, 40, 6, 0);
-        lot(due, x, 38, 46, 1, 0);
+        due.lot(x, 0, 37, 40, 6, 0);
+        due.lot(x, 0, 38, 46, 1, 0);
         x.step(2);
         due.is("forty again", 40, x.look(0, 4));
-        lot(due, x, 39, 47, 2, 0);
+        due.lot(x, 0, 39, 47, 2, 0);
     }
 
     private static void edictOfTheNextMonth(Due due) {
-        EvenGranary x = with("n1;p0");
+        EvenGranary x = Realms.with("n1;p0");
         x.town(1, 5000, 1000);
         x.step(1);
         due.is("by the first edict", 1, x.look(0, 10));
