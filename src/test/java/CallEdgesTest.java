@@ -6,6 +6,7 @@ public final class CallEdgesTest {
     public static void main(String[] args) {
         Due due = new Due("CallEdgesTest");
         newObject(due);
+        allCallsOfAnObject(due);
         feed(due);
         feedBytes(due);
         edict(due);
@@ -54,6 +55,17 @@ public final class CallEdgesTest {
         EvenGranary y = realm();
         due.is("nothing comes over from another object", 0, x.count(1) + x.count(2));
         due.is("which has its own", 3, y.count(1));
+    }
+
+    private static void allCallsOfAnObject(Due due) {
+        due.of("An object is used for at most 512 calls after it has been made");
+        EvenGranary x = new EvenGranary();
+        x.town(10, 0, 0);
+        for (int call = 2; call < 512; call += 2) {
+            due.is("call " + call, true, x.harvest(0, 11));
+            due.is("call " + (call + 1), call / 2, x.step(1));
+        }
+        due.is("call 512", 255, x.look(0, 1));
     }
 
     private static void feed(Due due) {

@@ -17,6 +17,7 @@ public final class MoveEdgesTest {
         foretoldHasNoHarvests(due);
         foretoldKnowsWhatIsOnTheWay(due);
         foretoldIsWhatComes(due);
+        foretellingChangesNothing(due);
         foretoldByTheCoin(due);
         foretoldAtTheLastMonth(due);
         bestMovesAsManyAsItCan(due);
@@ -217,6 +218,24 @@ public final class MoveEdgesTest {
         due.is("4 months", 40, x.foretold(4));
         x.move(0, 0, 30);
         due.is("4 months, with all of them on the way", 10, x.foretold(4));
+    }
+
+    private static void foretellingChangesNothing(Due due) {
+        due.of("the HUNGER that would come");
+        EvenGranary same = busy();
+        EvenGranary x = busy();
+        for (EvenGranary each : new EvenGranary[] {same, x}) {
+            each.harvest(0, 17);
+            each.harvest(1, 40);
+        }
+        for (int n : new int[] {24, 1, 12}) {
+            x.foretold(n);
+            x.best(0, n);
+            x.best(1, n);
+        }
+        due.is("all is as without", true, Realms.state(same).equals(Realms.state(x)));
+        due.is("harvests come as without", same.step(1), x.step(1));
+        due.is("and all goes on as without", true, Realms.state(same).equals(Realms.state(x)));
     }
 
     private static void foretoldByTheCoin(Due due) {

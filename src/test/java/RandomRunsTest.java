@@ -5,11 +5,18 @@ public final class RandomRunsTest {
     private static final int RUNS = 400;
     private static final int CALLS = 500;
 
+    /** What a run does more of than others, so that the far edges come up: months to the last, carts to sixty, lots to forty. */
+    private enum Bent { NONE, MONTHS, CARTS, LOTS }
+
+    private static final Bent[] BENTS = Bent.values();
+
     private final Due due;
     private final Random random;
     private final EvenGranary x = new EvenGranary();
     private final PlainGranary y = new PlainGranary();
     private final String run;
+    private final Bent bent;
+    private final int[] beginnings = new int[12];
     private int towns;
     private int roads;
 
@@ -17,6 +24,7 @@ public final class RandomRunsTest {
         this.due = due;
         random = new Random(seed);
         run = "run " + seed + ": ";
+        bent = BENTS[seed % BENTS.length];
     }
 
     public static void main(String[] args) {
@@ -39,12 +47,35 @@ public final class RandomRunsTest {
             coin(random.nextInt(2000000));
         }
         for (int call = 0; call < CALLS; call++) {
-            one(random.nextInt(40));
+            one(kind());
             if (call % 25 == 0) {
                 compareAll();
             }
         }
         compareAll();
+    }
+
+    /** The number of a kind of call: all are alike likely, but for what the run is bent on. */
+    private int kind() {
+        int kind = random.nextInt(40);
+        boolean isStep = kind >= 9 && kind <= 16;
+        boolean isTaking = kind >= 17 && kind <= 28;
+        if (bent == Bent.CARTS && isStep && random.nextInt(12) > 0) {
+            return 17;
+        }
+        return bent == Bent.LOTS && isTaking && random.nextInt(8) > 0 ? 9 : kind;
+    }
+
+    private int months() {
+        if (random.nextInt(6) == 0) {
+            return some(25);
+        }
+        return bent == Bent.MONTHS ? 19 + random.nextInt(6) : 1;
+    }
+
+    private int lotToMeasure(int t) {
+        int lots = (int) Math.max(1, y.look(t, 4));
+        return bent == Bent.LOTS && random.nextBoolean() ? lots - 1 : some(lots);
     }
 
     /** Mostly a number from 0 to below most; now and then one that is wrong or at an edge. */
@@ -80,12 +111,11 @@ public final class RandomRunsTest {
                 due.is(run + "harvest(" + t + ", " + sheaves + ")", y.harvest(t, sheaves), x.harvest(t, sheaves));
                 break;
             case 9: case 10: case 11: case 12: case 13: case 14: case 15: case 16:
-                int months = random.nextInt(6) == 0 ? some(25) : 1;
+                int months = months();
                 due.is(run + "step(" + months + ")", y.step(months), x.step(months));
                 break;
             case 17: case 18: case 19: case 20: case 21: case 22: case 23:
-                int r = some(roads);
-                due.is(run + "move(" + t + ", " + r + ", " + n + ")", y.move(t, r, n), x.move(t, r, n));
+                move(t, n);
                 break;
             case 24: case 25:
                 due.is(run + "loan(" + t + ", " + n + ")", y.loan(t, n), x.loan(t, n));
@@ -94,7 +124,7 @@ public final class RandomRunsTest {
                 due.is(run + "steal(" + t + ", " + n + ")", y.steal(t, n), x.steal(t, n));
                 break;
             case 29: case 30: case 31:
-                int i = some((int) Math.max(1, y.look(t, 4)));
+                int i = lotToMeasure(t);
                 due.is(run + "measure(" + t + ", " + i + ")", y.measure(t, i), x.measure(t, i));
                 break;
             default: ask(kind, t); break;
@@ -142,6 +172,17 @@ public final class RandomRunsTest {
         int got = x.road(a, b, way, carts);
         due.is(run + "road(" + a + ", " + b + ", " + way + ", " + carts + ")", y.road(a, b, way, carts), got);
         roads = Math.max(roads, got + 1);
+        if (got >= 0 && got < beginnings.length) {
+            beginnings[got] = a;
+        }
+    }
+
+    private void move(int t, int n) {
+        int r = some(roads);
+        boolean isFitting = bent == Bent.CARTS && r >= 0 && r < roads;
+        int from = isFitting ? beginnings[r] : t;
+        int measures = isFitting ? 1 + random.nextInt(2) : n;
+        due.is(run + "move(" + from + ", " + r + ", " + measures + ")", y.move(from, r, measures), x.move(from, r, measures));
     }
 
     private void coin(long n) {
@@ -163,7 +204,7 @@ public final class RandomRunsTest {
 
     private String text() {
         StringBuilder text = new StringBuilder();
-        int[] usual = {300, 60, 500, 100, 150, 6, 40, 6};
+        int[] usual = {300, 60, 500, 100, 150, 6, bent == Bent.LOTS ? 2 : 40, 6};
         for (int clauses = random.nextInt(8); clauses >= 0; clauses--) {
             int which = random.nextInt(8);
             int number = (which == 4 ? 100 : which == 5 ? 1 : 0) + random.nextInt(usual[which]);

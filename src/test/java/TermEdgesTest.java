@@ -14,6 +14,7 @@ public final class TermEdgesTest {
         priceOfAMoment(due);
         coinTold(due);
         coinMayBeMoreThanCanBeTold(due);
+        coinMayBeMoreThanAnInt(due);
         twelveRoads(due);
         roadOfTwoTowns(due);
         roadGoesBothWays(due);
@@ -149,6 +150,29 @@ public final class TermEdgesTest {
         Due.edict(x, "b0;s1000;m5;p0;o0");
         x.step(1);
         due.is("coin above what can be told", 1000005000L, x.count(3));
+    }
+
+    /** Eight towns fill their stores three times, wait till nothing is in their markets, and sell all at 1000. */
+    private static void coinMayBeMoreThanAnInt(Due due) {
+        due.of("3 THE COIN");
+        EvenGranary x = new EvenGranary();
+        x.coin(1000000000);
+        for (int t = 0; t < 8; t++) {
+            x.town(1000, 0, 50000);
+        }
+        for (int year = 1; year <= 3; year++) {
+            Due.edict(x, "b9999;n9999;s9999;p0;o0");
+            for (int t = 0; t < 8; t++) {
+                x.harvest(t, 100000);
+            }
+            x.step(6);
+            Due.edict(x, "b0;n0;s1000;m1000;p0;o0");
+            long before = x.count(3);
+            Realms.months(x, 94);
+            due.is("sold by town 7", 50000L * year, x.look(7, 11));
+            due.is("coin", before + 8 * 50000 * 1000L, x.count(3));
+        }
+        due.is("coin above all ints", true, x.count(3) > Integer.MAX_VALUE);
     }
 
     private static void twelveRoads(Due due) {
